@@ -908,9 +908,16 @@ public final class PlumbLine {
 
         // -- trust
 
+        private int side(int m) {
+            if (lean[m] == 0) {
+                return 0;
+            }
+            return lean[m] < 0 ? -1 : 1;
+        }
+
         private boolean trusts(int one, int other) {
             return one != other
-                && Integer.signum(lean[one]) == Integer.signum(lean[other])
+                && side(one) == side(other)
                 && far(other) <= far(one) + 10;
         }
 

@@ -47,6 +47,7 @@ public final class PromiseTest {
         copy();
         cost();
         toss();
+        fullCity();
         System.out.println("PromiseTest: " + asked + " answers, " + wrong + " wrong");
         if (wrong != 0) {
             System.exit(1);
@@ -510,6 +511,9 @@ public final class PromiseTest {
         due("no such man", x.straight(4), -1);
         due("no such man", x.straight(-1), -1);
         due("a quaker from 1", told(one(2, 0, -1)).straight(0), 1);
+        // the model's answer, too: a partner by the mean of two quakers, one of them propped
+        due("60 days", told("m2281;r0;m7420;m2890;").straight(1), 60);
+        due("one day nearer", told("m2281;r0;m7420;m2890;d01;").straight(1), 59);
     }
 
     private static void crash() {
@@ -531,6 +535,11 @@ public final class PromiseTest {
         due("still at 45", slow.crash(1), 45);
         PlumbLine grows = told(one(4, 3, 0) + one(4, 3, 0));
         due("first out of 6 at 8", grows.crash(0), 4);
+        // bankers who make the mean 5 for a man at 5: (36 + 5) by 8; and 6 for one at 6: (43 + 6) by 8
+        String fives = one(1, 9, 5) + one(1, 9, 5) + one(1, 9, 5) + one(1, 9, 5) + one(1, 9, 5) + one(1, 9, 5);
+        String sixes = one(1, 9, 6) + one(1, 9, 6) + one(1, 9, 6) + one(1, 9, 6) + one(1, 9, 6) + one(1, 9, 6);
+        due("still behind 50", told(fives + one(1, 9, 6) + one(0, 0, -45)).crash(1), 50);
+        due("51 are too many", told(sixes + one(1, 9, 7) + one(0, 0, -45)).crash(1), -4);
         due("what", x.crash(2), -1);
         due("what", x.crash(-1), -1);
         PlumbLine turns = told(one(7, 0, 40) + one(1, 9, 0) + one(1, 9, 0));
@@ -572,6 +581,7 @@ public final class PromiseTest {
         due("discounts", x.trust(4), 30 + 10 + 4 + 18 + 3);
         x.pushes(4, -9);
         due("plumb, the least of several", x.trust(2), 2);
+        due("1 is east, 0 and -1 are not", told(one(0, 0, 1) + one(0, 0, 0) + one(0, 0, -1)).trust(3), 1);
         due("rivals less", x.trust(1), 6);
         due("trusted by none, the least", told(one(0, 0, 5) + one(0, 0, -5)).trust(0), 0);
         due("what", x.trust(5), -1);
@@ -586,6 +596,8 @@ public final class PromiseTest {
         due("of 33 by chains", x.tells(3), 0b011111);
         due("of 45 nobody", x.tells(4), 0);
         due("of the one west nobody", x.tells(5), 0);
+        // 33 is trusted by 23 alone, he by 13 and 33, 13 by 3
+        due("all by the first", told(one(0, 0, 23) + one(0, 0, 13) + one(0, 0, 33) + one(0, 0, 3)).tells(2), 0b1111);
         due("itself not", told(one(0, 0, 3) + one(0, 0, 20)).tells(0), 0b10);
         due("no such man", x.tells(6), -1);
         due("no such man", x.tells(-1), -1);
@@ -624,6 +636,8 @@ public final class PromiseTest {
         PlumbLine x = told(crashing());
         due("one of two suffices", x.push(1), 45);
         due("nothing changed", x.lean(0), 10);
+        // a swindler who is never upright draws the mean west, so that the other goes from 6 to 5
+        due("the first of all leans", told(one(6, 0, 45) + one(0, 0, 6)).push(1), 0);
         due("days", x.push(21), -1);
         due("days", x.push(-1), -1);
     }
@@ -645,6 +659,9 @@ public final class PromiseTest {
         due("alone", told(one(0, 0, 5)).right(0), 0);
         PlumbLine walls = told(one(0, 0, 5) + one(0, 0, 1) + one(0, 0, 2) + one(0, 0, 2) + one(0, 0, -9) + one(0, 0, 4));
         due("1 2 2 4", walls.right(1), 4);
+        due("0 1 2", told(one(0, 0, 0) + one(0, 0, 1) + one(0, 0, 0) + one(0, 0, 2)).right(1), 3);
+        due("0 0 among falling ones", told(one(0, 0, 0) + one(0, 0, -5) + one(0, 0, 0)).right(1), 2);
+        due("the first alone", told(one(0, 0, 0)).right(2), 1);
         due("1 2 2 -9 4", walls.right(2), 0b111110);
         due("several sets, the least", told(one(0, 0, 3) + one(0, 0, 3) + one(0, 0, -3)).right(2), 0b101);
         due("a 0 is more", told(one(0, 0, 3) + one(0, 0, 0) + one(0, 0, -3)).right(2), 0b111);
@@ -743,9 +760,17 @@ public final class PromiseTest {
         PlumbLine y = told(one(4, 3, 6) + one(1, 0, 1));
         due("only the first gains", y.two(0, 1, 1), 10);
         due("asked the other way", y.two(1, 0, 1), 1);
-        // neither can be upright, three crashes cost more than a prop's 2: one props a third man's
         y.props(0);
         due("propped already costs nothing", y.two(0, 1, 1), 0);
+        PlumbLine z = told(one(0, 0, 5) + one(1, 0, 45) + "r1;");
+        // he comes to 6 on days 1, 13, 25 (each time a crash), is turned, and is upright a day later
+        int[] days = {1, 2, 12, 13, 14, 24, 25, 26, 30};
+        int[] propped = {1, 0, 0, 1, 0, 0, 1, 1, 1};
+        for (int i = 0; i < days.length; i++) {
+            due("behind " + days[i], z.two(0, 1, days[i]), 10 * propped[i]);
+            due("the other way, behind " + days[i], z.two(1, 0, days[i]), propped[i]);
+        }
+        due("a third's leans count, too", told("m3250;m3746;m4953;m7459;r3;w70;").two(0, 1, 4), -4);
         due("one twice", x.two(0, 0, 1), -1);
         due("no such man", x.two(0, 2, 1), -1);
         due("no such man", x.two(-1, 1, 1), -1);
@@ -773,7 +798,11 @@ public final class PromiseTest {
         due("two days", y.shocks(0, 2, 7, 1), 49);
         due("in least terms", y.shocks(0, 2, 2, 0), 3);
         due("in least terms", y.shocks(0, 2, 2, 1), 4);
-        due("20 by 7 days fit", y.shocks(0, 7, 20, 1) > 0 ? 1 : 0, 1);
+        PlumbLine quaker = told(one(2, 0, 1));
+        due("certain behind 7", quaker.shocks(0, 7, 20, 0), 1);
+        due("certain behind 7", quaker.shocks(0, 7, 20, 1), 1);
+        PlumbLine turned = told(one(4, 9, 0) + one(4, 2, 8) + one(1, 9, 0) + "r1;");
+        due("a propped one is not turned", turned.shocks(1, 7, 20, 0), 0);
         due("no such man", x.shocks(1, 0, 2, 0), NOTHING);
         due("no such man", x.shocks(-1, 0, 2, 0), NOTHING);
         due("days", x.shocks(0, 8, 2, 0), NOTHING);
@@ -795,6 +824,8 @@ public final class PromiseTest {
         PlumbLine y = told(one(0, 0, 0) + one(0, 0, 1) + one(0, 0, 1) + one(0, 0, 4));
         due("186 by 4", y.mean(0), 93);
         due("186 by 4", y.mean(1), 2);
+        due("one man", told(one(0, 0, 3)).mean(0), 48);
+        due("one man", told(one(0, 0, 3)).mean(1), 1);
         due("part", y.mean(2), NOTHING);
         due("part", y.mean(-1), NOTHING);
     }
@@ -1050,6 +1081,10 @@ public final class PromiseTest {
         x.keep(4, 1, 0, 0);
         due("a kind", x.copy(4, 0, 1, 0, 1), -12);
         due("a kind", x.copy(0, 0, 4, 0, 1), -12);
+        x.row(5, 1, 3);
+        x.keep(5, 1, 0, 0);
+        due("a kind where such a row was", x.copy(5, 0, 1, 0, 1), -12);
+        due("a kind where such a row was", x.copy(0, 0, 5, 0, 1), -12);
         due("nothing ahead of a kind", x.copy(4, 0, 2, 0, 1), -11);
         due("a kind ahead of places", x.copy(4, 0, 1, 0, -1), -12);
     }
@@ -1077,6 +1112,46 @@ public final class PromiseTest {
             due("figure 0 of kind " + k, x.toss(0), -15);
         }
         refusedUnlessKind();
+    }
+
+    /** With eight men every number of a man and every place is in use. */
+    private static void fullCity() {
+        promise = "all of eight men";
+        String three = one(1, 9, 0) + one(1, 9, 0) + one(1, 9, 0);
+        PlumbLine x = told(three + three + one(1, 9, 0) + one(1, 9, 0) + "w97;");
+        due("upright", x.days(1), 8);
+        due("place", x.count(2), 0);
+        due("upright", x.count(5), 255);
+        for (int m = 0; m < 8; m++) {
+            due("lean", x.lean(m), 0);
+            due("trusted by the others", x.man(m, 5), 255 - (1 << m));
+            due("told by all", x.tells(m), 255);
+            due("straight", x.straight(m), 0);
+            due("found while it swings", x.finds(m), m);
+            due("likely", x.shocks(m, 7, 2, 0), 1);
+        }
+        due("most trusted", x.trust(0), 0);
+        due("rivals", x.trust(1), 0);
+        due("plumb", x.trust(2), 0);
+        due("east", x.trust(3), 0);
+        due("discounts", x.trust(4), 0);
+        due("right one", x.right(0), 0);
+        due("walls", x.right(1), 8);
+        due("balance", x.right(2), 255);
+        due("props", x.fewestProps(30), 0);
+        due("push", x.push(20), -4);
+        due("crash", x.crash(0), -4);
+        due("still", x.crash(1), 0);
+        due("two", x.two(7, 6, 30), 0);
+        due("mean", x.mean(0), 45);
+        shelveRow(x, 0, 0, 0, 0, 0, 0, 0, 0, 0, 0, 0);
+        due("a ninth card", x.forged(0), 8);
+        due("judged", x.judge(0), 0);
+        due("what he did", x.whatIs(0, 7, 0), 0b10101111);
+        due("years", x.years(20, 0, 1) >= 0 ? 1 : 0, 1);
+        due("image", x.image(), 1);
+        due("restored", x.restore(), 1);
+        due("men", x.count(0), 8);
     }
 
     private static void refusedUnlessKind() {
