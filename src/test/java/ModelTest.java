@@ -2,6 +2,12 @@ import java.util.Random;
 
 /** Plays runs by fixed seeds on the program and on the model, and compares every answer. */
 public final class ModelTest {
+    /** Cities found by search, in which each figure of the questions decides something. */
+    private static final String[] LISTED = {"m3620;m4655;m4507;m2751;r3;m0738;", "m7379;m7053;m1942;m4939;",
+        "m5249;r0;m0711;m3954;m3744;", "m7235;m1137;m6551;m6644;m7013;", "m3853;m6854;m3303;",
+        "m3743;m0223;m2701;m1646;m1054;", "m0037;m4953;m5351;m2067;m4783;r4;m7462;r5;m7035;",
+        "m3250;m3746;m4953;m7459;r3;w70;", "m7313;m3637;m6642;m5600;m3119;m0839;",
+        "m7140;r0;m3545;m7539;m7390;m0151;m7602;m0063;r6;m6124;w47;"};
     private static final int RUNS = 1200;
     private static final int CALLS = 200;
     private static int wrong;
@@ -26,6 +32,9 @@ public final class ModelTest {
                 calls++;
                 test.callOne(run);
             }
+        }
+        for (int i = 0; i < LISTED.length; i++) {
+            new ModelTest(i).compareListed(LISTED[i]);
         }
         for (int i = 0; i < asked.length; i++) {
             if (asked[i] == 0) {
@@ -60,6 +69,33 @@ public final class ModelTest {
 
     private int leanNumber() {
         return random.nextInt(3) == 0 ? number(-12, 12) : number(-45, 45);
+    }
+
+    // ---- listed cities
+
+    private void compareListed(String text) {
+        int[] values = text.chars().toArray();
+        shelve(0, 0, values);
+        due("city of " + text, line.city(0), model.city(0));
+        for (int n = 0; n <= 30; n++) {
+            for (int a = 0; a < line.count(0); a++) {
+                due(text + " finds " + a, line.finds(a), model.finds(a));
+                due(text + " straight " + a, line.straight(a), model.straight(a));
+                for (int b = 0; b < line.count(0); b++) {
+                    due(text + " two " + a + " " + b + " " + n, line.two(a, b, n), model.two(a, b, n));
+                }
+            }
+        }
+        for (int n = 0; n <= 2; n++) {
+            due(text + " push " + n, line.push(n), model.push(n));
+        }
+    }
+
+    private static void due(String call, long got, long due) {
+        if (got != due) {
+            wrong++;
+            System.out.println(call + " answered " + got + ", due is " + due);
+        }
     }
 
     // ---- calls

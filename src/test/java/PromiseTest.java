@@ -418,6 +418,8 @@ public final class PromiseTest {
         due("what is west now", long999.lean(0), -10);
         due("the sign in mind", long999.leanThen(0, 1), 10);
         due("props are needed still", long999.fewestProps(1), -4);
+        due("crashes cannot be one more", long999.crash(0), -4);
+        due("nor more by years", long999.years(3, 1, 1), 0);
     }
 
     private static void lead() {
@@ -561,6 +563,10 @@ public final class PromiseTest {
         due("past 2 never", x.finds(1), -4);
         x.hangs(9, 3);
         due("round", x.finds(0), 1);
+        // the model's answer, too: the lead swings by late crashes
+        String far = "m7140;r0;m3545;m7539;m7390;m0151;m7602;m0063;r6;m6124;w47;";
+        due("60 days", told(far).finds(5), 60);
+        due("one day nearer", told(far + "d01;").finds(5), 59);
         due("no such man", x.finds(4), -1);
         due("no such man", x.finds(-1), -1);
     }
