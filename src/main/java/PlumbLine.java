@@ -739,10 +739,16 @@ public final class PlumbLine {
 
         // -- days
 
-        void passDays(int n) {
+        /** Tells on how many of the days there is a crash: crashes at the most do not show it. */
+        int passDays(int n) {
+            int crashed = 0;
             for (int i = 0; i < n; i++) {
                 passDay();
+                if (crashedToday) {
+                    crashed++;
+                }
             }
+            return crashed;
         }
 
         void passDay() {
@@ -1008,7 +1014,7 @@ public final class PlumbLine {
             then.becomes(now);
             for (int n = 1; n <= DAYS_ON; n++) {
                 then.passDay();
-                if (then.crashes > now.crashes) {
+                if (then.crashedToday) {
                     return n;
                 }
             }
@@ -1180,9 +1186,9 @@ public final class PlumbLine {
                 int props = (pair >> 1) << a | (pair & 1) << b;
                 then.becomes(now);
                 then.propped |= props;
-                then.passDays(n);
-                gains[pair] = gainOf(a, pair >> 1);
-                othersGains[pair] = gainOf(b, pair & 1);
+                int crashed = then.passDays(n);
+                gains[pair] = gainOf(a, pair >> 1, crashed);
+                othersGains[pair] = gainOf(b, pair & 1, crashed);
             }
             for (int pair = 0; pair < 4; pair++) {
                 if (gains[pair] >= gains[pair ^ 2] && othersGains[pair] >= othersGains[pair ^ 1]) {
@@ -1192,9 +1198,9 @@ public final class PlumbLine {
             return NONE;
         }
 
-        private int gainOf(int m, int choice) {
+        private int gainOf(int m, int choice, int crashed) {
             int wish = then.isUpright(m) ? 6 : 0;
-            return wish - 2 * choice - (then.crashes - now.crashes);
+            return wish - 2 * choice - crashed;
         }
 
         // -- odds and draws
@@ -1229,6 +1235,7 @@ public final class PlumbLine {
                 }
                 then.passDays(12);
                 those += Integer.bitCount(then.upright());
+                // by the number told as CRASHES, which stays at its most
                 crashes += then.crashes - now.crashes;
             }
             return what == 0 ? those : crashes;

@@ -425,7 +425,7 @@ final class CityModel {
 
     long crash(int what) {
         if (what == 0) {
-            return first(1, 60, s -> s.crashes > now.crashes);
+            return first(1, 60, s -> s.blows > now.blows);
         }
         return what == 1 ? first(0, 50, this::isStill) : -1;
     }
@@ -618,7 +618,7 @@ final class CityModel {
         s = y == 1 ? s.with(b, s.men.get(b).propped(true)) : s;
         s = on(s, n);
         int wish = isUpright(s.men.get(ofA ? a : b)) ? 6 : 0;
-        return wish - 2 * (ofA ? x : y) - (s.crashes - now.crashes);
+        return wish - 2 * (ofA ? x : y) - (s.blows - now.blows);
     }
 
     long shocks(int m, int n, int t, int part) {

@@ -10,6 +10,7 @@ public final class ModelTest {
         "m7140;r0;m3545;m7539;m7390;m0151;m7602;m0063;r6;m6124;w47;"};
     private static final int RUNS = 1200;
     private static final int CALLS = 200;
+    private static final int LATE_RUNS = 300;
     private static int wrong;
     private static final int[] asked = new int[37];
 
@@ -35,6 +36,9 @@ public final class ModelTest {
         }
         for (int i = 0; i < LISTED.length; i++) {
             new ModelTest(i).compareListed(LISTED[i]);
+        }
+        for (int run = 0; run < LATE_RUNS && wrong < 20; run++) {
+            new ModelTest(run).compareAtMostCrashes();
         }
         for (int i = 0; i < asked.length; i++) {
             if (asked[i] == 0) {
@@ -89,6 +93,40 @@ public final class ModelTest {
         for (int n = 0; n <= 2; n++) {
             due(text + " push " + n, line.push(n), model.push(n));
         }
+    }
+
+    // ---- cities whose crashes stand at the most, or near to it
+
+    /** All stand propped at 45 and crash on each day; then they are let go, with other leans. */
+    private void compareAtMostCrashes() {
+        StringBuilder begin = new StringBuilder();
+        StringBuilder text = new StringBuilder();
+        int men = 2 + random.nextInt(6);
+        for (int m = 0; m < men; m++) {
+            begin.append("m").append(random.nextInt(8)).append(random.nextInt(10)).append("90;r").append(m).append(';');
+            text.append(random.nextInt(8) == 0 ? "" : "r" + m + ";").append("l").append(m)
+                .append(two(random.nextInt(3) == 0 ? random.nextInt(91) : 30 + random.nextInt(31))).append(";");
+        }
+        tellBoth(begin.toString());
+        tellBoth("d60;".repeat(16) + "d" + (36 + random.nextInt(4)) + ";");
+        tellBoth(text.toString());
+        String city = begin + " " + text + " by " + line.count(4) + " crashes: ";
+        due(city + "count 4", line.count(4), model.count(4));
+        due(city + "crash", line.crash(0), model.crash(0));
+        for (int n = 1; n <= 30; n++) {
+            due(city + "then " + n, line.then(n, 2), model.then(n, 2));
+            int a = random.nextInt(men);
+            int b = random.nextInt(men);
+            due(city + "two " + a + " " + b + " " + n, line.two(a, b, n), model.two(a, b, n));
+        }
+        int n = 1 + random.nextInt(8);
+        due(city + "fewestProps " + n, line.fewestProps(n), model.fewestProps(n));
+        due(city + "years " + n, line.years(n, men, 1), model.years(n, men, 1));
+    }
+
+    private void tellBoth(String text) {
+        shelve(0, 0, text.chars().toArray());
+        due("city of " + text, line.city(0), model.city(0));
     }
 
     private static void due(String call, long got, long due) {

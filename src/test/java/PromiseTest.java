@@ -92,6 +92,15 @@ public final class PromiseTest {
         return x;
     }
 
+    private static void passDays(PlumbLine x, int n) {
+        int left = n;
+        while (left > 0) {
+            int some = Math.min(60, left);
+            x.days(some);
+            left -= some;
+        }
+    }
+
     /** A man's kind and figure, and his lean by its true number. */
     private static String one(int kind, int figure, int lean) {
         return "m" + kind + figure + twoDigits(lean + 45) + ";";
@@ -409,17 +418,13 @@ public final class PromiseTest {
         due("a crash", behind.count(4), 1);
         due("west now", behind.lean(0), -1);
         PlumbLine long999 = told(crashing());
-        for (int i = 0; i < 16; i++) {
-            long999.days(60);
-        }
-        long999.days(39);
+        passDays(long999, 999);
         due("crashes", long999.count(4), 999);
         due("999 at most", long999.then(5, 2), 999);
         due("what is west now", long999.lean(0), -10);
         due("the sign in mind", long999.leanThen(0, 1), 10);
         due("props are needed still", long999.fewestProps(1), -4);
-        due("crashes cannot be one more", long999.crash(0), -4);
-        due("nor more by years", long999.years(3, 1, 1), 0);
+        due("crashes as told are no more by years", long999.years(3, 1, 1), 0);
     }
 
     private static void lead() {
@@ -549,6 +554,18 @@ public final class PromiseTest {
         due("a day off is not still", turns.crash(1) > 0 ? 1 : 0, 1);
         PlumbLine more = told(crashing() + "d05;");
         due("one more than now", more.crash(0), 1);
+        PlumbLine most = told(crashing());
+        passDays(most, 999);
+        due("999 already", most.count(4), 999);
+        due("a crash all the same", most.crash(0), 1);
+        most.pushes(0, 0);
+        due("none where one is upright", most.crash(0), -4);
+        // brokers out of 6 at 8, on the fourth day; until then propped at 45 they crash on each day
+        PlumbLine later = told(one(4, 3, 45) + one(4, 3, 45) + "r0;r1;");
+        passDays(later, 999);
+        due("999 already", later.count(4), 999);
+        tell(later, "r0;r1;l045;l145;");
+        due("a later one, too", later.crash(0), 4);
     }
 
     private static void finds() {
@@ -777,11 +794,23 @@ public final class PromiseTest {
             due("the other way, behind " + days[i], z.two(1, 0, days[i]), propped[i]);
         }
         due("a third's leans count, too", told("m3250;m3746;m4953;m7459;r3;w70;").two(0, 1, 4), -4);
+        due("a crash more at 997", twoBehind(997), 1);
+        due("999 come to on the way", twoBehind(998), 1);
+        due("999 already", twoBehind(999), 1);
         due("one twice", x.two(0, 0, 1), -1);
         due("no such man", x.two(0, 2, 1), -1);
         due("no such man", x.two(-1, 1, 1), -1);
         due("days", x.two(0, 1, 0), -1);
         due("days", x.two(0, 1, 31), -1);
+    }
+
+    /** The first and third of four men, three days on, behind days of which each had a crash. */
+    private static int twoBehind(int days) {
+        PlumbLine x = told(one(0, 0, 45) + one(0, 0, 45) + one(0, 0, 45) + one(0, 0, 45) + "r0;r1;r2;r3;");
+        passDays(x, days);
+        due("crashes", x.count(4), days);
+        tell(x, "r0;r1;r2;r3;l050;l145;l258;l356;");
+        return x.two(0, 2, 3);
     }
 
     private static void shocks() {
