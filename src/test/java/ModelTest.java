@@ -7,7 +7,8 @@ public final class ModelTest {
         "m5249;r0;m0711;m3954;m3744;", "m7235;m1137;m6551;m6644;m7013;", "m3853;m6854;m3303;",
         "m3743;m0223;m2701;m1646;m1054;", "m0037;m4953;m5351;m2067;m4783;r4;m7462;r5;m7035;",
         "m3250;m3746;m4953;m7459;r3;w70;", "m7313;m3637;m6642;m5600;m3119;m0839;",
-        "m7140;r0;m3545;m7539;m7390;m0151;m7602;m0063;r6;m6124;w47;"};
+        "m7140;r0;m3545;m7539;m7390;m0151;m7602;m0063;r6;m6124;w47;",
+        "m7990;m7990;m7655;m7452;m6930;r4;m3752;m7505;", "m7990;m7906;m3047;m7919;m4830;r4;m7790;m7553;"};
     private static final int RUNS = 1200;
     private static final int CALLS = 200;
     private static final int LATE_RUNS = 300;
@@ -90,6 +91,7 @@ public final class ModelTest {
                 }
             }
         }
+        due(text + " crash", line.crash(0), model.crash(0));
         for (int n = 0; n <= 2; n++) {
             due(text + " push " + n, line.push(n), model.push(n));
         }

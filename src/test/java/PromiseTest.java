@@ -554,6 +554,13 @@ public final class PromiseTest {
         due("a day off is not still", turns.crash(1) > 0 ? 1 : 0, 1);
         PlumbLine more = told(crashing() + "d05;");
         due("one more than now", more.crash(0), 1);
+        // found by search, and the model's answer, too
+        PlumbLine late = told("m7990;m7990;m7655;m7452;m6930;r4;m3752;m7505;");
+        due("60 days", late.crash(0), 60);
+        due("no crash behind 59", late.then(59, 2), 0);
+        due("one behind 60", late.then(60, 2), 1);
+        late.days(1);
+        due("one day nearer", late.crash(0), 59);
         PlumbLine most = told(crashing());
         passDays(most, 999);
         due("999 already", most.count(4), 999);
