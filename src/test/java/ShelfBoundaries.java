@@ -126,6 +126,12 @@ final class ShelfBoundaries {
     }
 
     private static void shelvesStay() {
+        PlumbLine same = Boundary.busy();
+        String shelves = Trace.ofShelves(same);
+        same.image();
+        Boundary.due("SHELVES behind image()", Trace.ofShelves(same).equals(shelves) ? 1 : 0, 1);
+        same.restore();
+        Boundary.due("SHELVES behind restore()", Trace.ofShelves(same).equals(shelves) ? 1 : 0, 1);
         PlumbLine x = Boundary.busy();
         x.keep(5, 1, 1, 8);
         x.row(7, 1, 1);
@@ -351,7 +357,11 @@ final class ShelfBoundaries {
         x.row(2, 1, 0);
         x.row(3, 0, 5);
         x.row(4, 2, 5);
+        // a KIND and nothing, where ROWS of that SORT have been
+        x.row(5, 1, 3);
         x.keep(5, 1, 2, 2);
+        x.row(6, 1, 3);
+        x.keep(6, 0, 0, 0);
         return x;
     }
 

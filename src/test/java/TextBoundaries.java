@@ -230,6 +230,9 @@ final class TextBoundaries {
         }
         fault(() -> Boundary.onDay(999), "w00;d01;", -2004);
         fault(Boundary::full, "w00;d01;m0045;", -2008);
+        fault(Boundary::full, "m0045;x", -1006);
+        fault(Boundary::full, "m0045", -1005);
+        fault(() -> Boundary.onDay(999), "d01;d1;", -1006);
         taken(Boundary.busy(), "m0045;l545;r5;w07;d60;", 5);
     }
 

@@ -250,6 +250,61 @@ final class ToldBoundaries {
         Boundary.due("both are PROPPED already", already.two(0, 1, 1), 0);
         Boundary.due("PROPPED stays", already.count(6), 3);
         Boundary.due("no pair", Boundary.told("m3250;m3746;m4953;m7459;r3;w70;").two(0, 1, 4), -4);
+        // the QUAKER is upright behind 16, with 9 CRASHES: 6 less 9; PROPPED never, with 1: less 2 and 1, which is not more
+        twoBehind(() -> Boundary.men(7, 2, 10, 2, 3, 16), 15, 1);
+        twoBehind(() -> Boundary.men(7, 2, 10, 2, 3, 16), 16, 0);
+        // the MAN is upright in any way; the QUAKER has 6 less 10 CRASHES, or by a prop 2 less for it and 2 for CRASHES
+        Boundary.due("two(0, 1, 16) by a MAN", Boundary.men(0, 6, 4, 2, 3, 16).two(0, 1, 16), 1);
+        Boundary.due("two(1, 0, 16) by a QUAKER", Boundary.men(0, 6, 4, 2, 3, 16).two(1, 0, 16), 1);
+        twoAsPlayed();
+    }
+
+    /** Many cities, by numbers drawn: each pair is played on a city of its own. */
+    private static void twoAsPlayed() {
+        java.util.Random random = new java.util.Random(22);
+        for (int city = 0; city < 400; city++) {
+            int[] men = new int[6 + 3 * random.nextInt(3)];
+            for (int i = 0; i < men.length; i += 3) {
+                men[i] = random.nextInt(8);
+                men[i + 1] = random.nextInt(10);
+                men[i + 2] = random.nextInt(91) - 45;
+            }
+            int bits = random.nextInt(4) == 0 ? random.nextInt(4) : 0;
+            Supplier<PlumbLine> made = () -> propped(Boundary.men(men), setOf(bits));
+            for (int n : new int[] {1, 2, 10 + random.nextInt(18), 29, 30}) {
+                String of = java.util.Arrays.toString(men) + ", " + bits + " PROPPED";
+                Boundary.due("two(0, 1, " + n + ") by " + of, made.get().two(0, 1, n), playedPair(made, n));
+            }
+        }
+    }
+
+    private static int[] setOf(int bits) {
+        return bits == 0 ? new int[0] : bits == 3 ? new int[] {0, 1} : new int[] {bits - 1};
+    }
+
+    /** The first of the pairs 00, 01, 10, 11 by which neither has more by another choice alone. */
+    private static int playedPair(Supplier<PlumbLine> made, int n) {
+        int[][] has = new int[4][2];
+        for (int pair = 0; pair < 4; pair++) {
+            PlumbLine x = made.get();
+            for (int one = 0; one <= 1; one++) {
+                boolean chooses = (one == 0 ? pair / 2 : pair % 2) == 1;
+                if (chooses && x.man(one, 2) == 0) {
+                    x.props(one);
+                }
+                has[pair][one] -= chooses ? 2 : 0;
+            }
+            x.days(n);
+            for (int one = 0; one <= 1; one++) {
+                has[pair][one] += (x.man(one, 3) == 1 ? 6 : 0) - x.count(4);
+            }
+        }
+        for (int pair = 0; pair < 4; pair++) {
+            if (has[pair][0] >= has[(pair + 2) % 4][0] && has[pair][1] >= has[pair % 2 == 0 ? pair + 1 : pair - 1][1]) {
+                return 10 * (pair / 2) + pair % 2;
+            }
+        }
+        return -4;
     }
 
     private static void twoAtMostCrashes() {
@@ -264,6 +319,7 @@ final class ToldBoundaries {
             Boundary.due("CRASHES", x.count(4), crashes);
             for (int i = 0; i < days.length; i++) {
                 Boundary.due("two(0, 1, " + days[i] + ") at " + crashes, x.two(0, 1, days[i]), pairs[i]);
+                Boundary.due("two(1, 0, " + days[i] + ") at " + crashes, x.two(1, 0, days[i]), pairs[i] / 10);
             }
         }
     }

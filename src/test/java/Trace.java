@@ -19,6 +19,13 @@ final class Trace {
         return trace.told.toString();
     }
 
+    /** What the shelves hold; it changes nothing. */
+    static String ofShelves(PlumbLine line) {
+        Trace trace = new Trace(line);
+        trace.shelves();
+        return trace.told.toString();
+    }
+
     private void tell(String what, long number) {
         told.append(what).append(' ').append(number).append("; ");
     }
