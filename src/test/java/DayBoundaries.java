@@ -143,13 +143,17 @@ final class DayBoundaries {
     }
 
     private static void brokerLeans() {
-        int[] steps = {1, 1, 1, 2, 2, 2, 3, 3, 3, 4};
+        leansAway(4, 1, 1, 1, 2, 2, 2, 3, 3, 3, 4);
+    }
+
+    /** So much, by figures 0 to 9. */
+    private static void leansAway(int kind, int... steps) {
         for (int figure = 0; figure <= 9; figure++) {
             int step = steps[figure];
-            leansTo(4, figure, 45, 1, 1 + step, 10, 10 + step);
-            leansTo(4, figure, -45, 1, 1 + step, 2, 2 + step);
-            Boundary.due("east, if at 0", leanBehind(1, 4, figure, 0, -45), step);
-            Boundary.due("east, if at 0", leanBehind(0, 4, figure, 0, 45), step);
+            leansTo(kind, figure, 45, 1, 1 + step, 10, 10 + step);
+            leansTo(kind, figure, -45, 1, 1 + step, 2, 2 + step);
+            Boundary.due("east, if at 0", leanBehind(1, kind, figure, 0, -45), step);
+            Boundary.due("east, if at 0", leanBehind(0, kind, figure, 0, 45), step);
         }
     }
 
@@ -159,14 +163,7 @@ final class DayBoundaries {
     }
 
     private static void swindlerLeans() {
-        int[] steps = {2, 2, 2, 4, 4, 4, 6, 6, 6, 8};
-        for (int figure = 0; figure <= 9; figure++) {
-            int step = steps[figure];
-            leansTo(6, figure, 45, 1, 1 + step, 10, 10 + step);
-            leansTo(6, figure, -45, 1, 1 + step, 2, 2 + step);
-            Boundary.due("east, if at 0", leanBehind(1, 6, figure, 0, -45), step);
-            Boundary.due("east, if at 0", leanBehind(0, 6, figure, 0, 45), step);
-        }
+        leansAway(6, 2, 2, 2, 4, 4, 4, 6, 6, 6, 8);
     }
 
     private static void partnerLeans() {
